@@ -1,0 +1,53 @@
+/** What the tests share: counting wrong answers, and telling a coach a text. */
+final class Check {
+    static final int NONE = -1000000, BAD = -1000001, STATE = -1000002, FULL = -1000003;
+    static final int NULL = -1000011, PLACE = -1000012, KIND = -1000013, SIZE = -1000014, STORE = -1000015;
+
+    private static int wrong = 0;
+
+    private Check() {
+    }
+
+    static void same(String call, long got, long want) {
+        if (got != want) {
+            wrong++;
+            if (wrong <= 40) {
+                System.out.println(call + " answered " + got + ", due is " + want);
+            }
+        }
+    }
+
+    static void finish() {
+        if (wrong != 0) {
+            System.out.println(wrong + " answers are not as due");
+            System.exit(1);
+        }
+    }
+
+    static void feed(OathCoach x, String text) {
+        for (int i = 0; i < text.length(); i++) {
+            same("feed of byte " + i + " of " + text, x.feed(text.charAt(i)), i + 1);
+        }
+    }
+
+    static int told(OathCoach x, String text) {
+        feed(x, text);
+        return x.route();
+    }
+
+    static OathCoach coachOf(String text) {
+        OathCoach x = new OathCoach();
+        int oaths = told(x, text);
+        if (oaths < 1) {
+            same("route of " + text, oaths, 1);
+        }
+        return x;
+    }
+
+    static void rowOf(OathCoach x, int row, int... items) {
+        same("row", x.row(row, 0, items.length), items.length);
+        for (int i = 0; i < items.length; i++) {
+            same("set", x.set(row, i, items[i]), items[i]);
+        }
+    }
+}
