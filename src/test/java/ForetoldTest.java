@@ -104,6 +104,11 @@ public final class ForetoldTest {
         x = Check.coachOf(TO_AND_FRO);
         Check.same("two places", x.visits(60), 3);
         Check.same("never", x.rest(), Check.NONE);
+        Check.same("ten hours are a rest", Check.coachOf("c9,0;l8,1,10;").rest(), 0);
+        Check.same("nine are none", Check.coachOf("c9,0;l8,1,9;").rest(), 10);
+        String nines = "c9,0;l8,1,9;l7,1,18;l6,1,27;l5,1,36;l4,1,45;l3,1,54;";
+        Check.same("behind sixty hours", Check.coachOf(nines + "l2,1,59;").rest(), 60);
+        Check.same("behind more", Check.coachOf(nines + "l2,1,60;").rest(), Check.NONE);
     }
 
     private static void least() {
@@ -124,6 +129,7 @@ public final class ForetoldTest {
         Check.same("20 is enough", x.least(1, 0, 1), 20);
         x = Check.coachOf("c1,0;f9,15,60;o9,1,60;");
         Check.same("20 is not enough", x.least(1, 0, 1), Check.NONE);
+        Check.same("1 at least", Check.coachOf("c0,0;o9,1,60;").least(0, 0, 1), 1);
     }
 
     private static void buyOff() {
@@ -136,6 +142,8 @@ public final class ForetoldTest {
         boughtOff(x, 3, 1, Check.NONE, Check.NONE);
         boughtOff(x, 4, 1, 2, 3);
         boughtOff(Check.coachOf(THREE), 9, 7, 1, 1);
+        boughtOff(Check.coachOf("c5,0;o9,1,9;o9,1,9;o9,1,9;o9,1,9;o9,1,9;o9,1,9;o9,1,9;"), 5, 1, 7, 127);
+        boughtOff(vowThatIsKept(), 3, 2, Check.NONE, Check.NONE);
         int[][] bad = {{10, 1, 0}, {-1, 1, 0}, {0, 0, 0}, {0, 25, 0}, {0, 1, 2}, {0, 1, -1}};
         for (int[] b : bad) {
             Check.same("bad", x.buyOff(b[0], b[1], b[2]), Check.BAD);
@@ -147,6 +155,15 @@ public final class ForetoldTest {
         Check.same("buyOff " + place + " in " + n + ", which", x.buyOff(place, n, 1), which);
     }
 
+    /** Were it bought off, the coach would go on to 3; but it is not OPEN. */
+    private static OathCoach vowThatIsKept() {
+        OathCoach x = Check.coachOf("c1,0;v1,1,1;o9,1,60;");
+        x.hours(1);
+        Check.same("kept", x.oath(0, 3), 1);
+        Check.same("it comes back", x.ahead(2), 1);
+        return x;
+    }
+
     private static void holds() {
         OathCoach x = Check.coachOf(THREE);
         Check.same("one hour", x.holds(1), 1);
@@ -156,6 +173,7 @@ public final class ForetoldTest {
         Check.same("above", x.holds(61), Check.BAD);
         x.buy(0);
         Check.same("what is not open does not hold", x.holds(1), 2);
+        Check.same("a vow that is kept does not hold", vowThatIsKept().holds(2), 0);
     }
 
     private static void broke() {
@@ -172,6 +190,9 @@ public final class ForetoldTest {
         Check.same("bought off: as it is", x.broke(2, 0, 2), 128);
         Check.rowOf(x, 3, 6, 7, 8, 9, 9, 9, 9, 9, 9, 9, 9, 9, 9);
         Check.same("twelve", x.broke(3, 0, 12), 2);
+        x = vowThatIsKept();
+        Check.rowOf(x, 0, 2, 3);
+        Check.same("what is not open was not broken", x.broke(0, 0, 2), 0);
     }
 
     private static void sworn() {
@@ -292,6 +313,7 @@ public final class ForetoldTest {
         Check.same("kept and open again at once", x.order(0) * 10 + x.order(1), 0);
         x = Check.coachOf("c0,0;o2,1,1;v1,20,1;");
         Check.same("by hours", x.order(0) * 10 + x.order(1), 10);
+        Check.same("the last hour", Check.coachOf("c9,0;l8,1,59;").order(0), 0);
     }
 
     private static void drawn() {
@@ -306,6 +328,11 @@ public final class ForetoldTest {
             Check.same("bad", x.drawn(b[0], b[1], b[2]), Check.BAD);
         }
         Check.same("the last seed", x.drawn(0, 999999, 0), 0);
+        Check.same("sworn in the first hour", x.drawn(1, 3, 0), 1);
+        Check.same("and kept", x.drawn(1, 3, 1), 0);
+        x = Check.coachOf("c5,0;o9,5,60;o9,1,60;m9,3,60;o9,1,60;");
+        Check.same("the third is sworn to 2", x.drawn(1, 6, 0), 4);
+        Check.same("all are open", x.drawn(1, 6, 1), 4);
     }
 
     private static void images() {

@@ -30,6 +30,10 @@ public final class RowsTest {
         Check.same("copy of what is there", x.copy(7, 39, 7, 0, 1), 1);
         Check.same("in place of what is there", x.row(7, 2, 40), 40);
         Check.same("rows yet", x.count(0), 2);
+        x = Check.coachOf("c0,0;o0,1,1;");
+        Check.rowOf(x, 0, 5, 5, 5, 5);
+        x.row(0, 1, 3);
+        Check.same("items are 0 at first", x.broke(0, 0, 3), 129);
     }
 
     private static void set() {
