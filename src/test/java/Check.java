@@ -1,3 +1,8 @@
+import java.lang.reflect.Method;
+import java.util.ArrayList;
+import java.util.Comparator;
+import java.util.List;
+
 /** What the tests share: counting wrong answers, and telling a coach a text. */
 final class Check {
     static final int NONE = -1000000, BAD = -1000001, STATE = -1000002, FULL = -1000003;
@@ -49,5 +54,17 @@ final class Check {
         for (int i = 0; i < items.length; i++) {
             same("set", x.set(row, i, items[i]), items[i]);
         }
+    }
+
+    /** In an order of their own, so that a seeded draw picks the same ones on every machine. */
+    static List<Method> publicCalls() {
+        List<Method> calls = new ArrayList<>();
+        for (Method m : OathCoach.class.getMethods()) {
+            if (m.getDeclaringClass() == OathCoach.class) {
+                calls.add(m);
+            }
+        }
+        calls.sort(Comparator.comparing(Method::getName));
+        return calls;
     }
 }

@@ -1,7 +1,5 @@
 import java.lang.reflect.Method;
-import java.util.ArrayList;
 import java.util.Arrays;
-import java.util.Comparator;
 import java.util.List;
 import java.util.Random;
 
@@ -22,13 +20,7 @@ public final class ModelTest {
     }
 
     public static void main(String[] args) throws ReflectiveOperationException {
-        List<Method> calls = new ArrayList<>();
-        for (Method m : OathCoach.class.getMethods()) {
-            if (m.getDeclaringClass() == OathCoach.class) {
-                calls.add(m);
-            }
-        }
-        calls.sort(Comparator.comparing(Method::getName));
+        List<Method> calls = Check.publicCalls();
         for (int run = 0; run < RUNS; run++) {
             new ModelTest(run).run(run, calls);
         }

@@ -1,8 +1,6 @@
 import java.lang.reflect.InvocationTargetException;
 import java.lang.reflect.Method;
-import java.util.ArrayList;
 import java.util.Arrays;
-import java.util.Comparator;
 import java.util.List;
 import java.util.Random;
 
@@ -15,13 +13,7 @@ public final class WildTest {
     private static final String TEXT = "c5,3;o3,4,2;m7,4,1;v5,1,1;f0,9,9;l9,20,60;v0,20,3;m4,2,8;";
 
     public static void main(String[] args) throws IllegalAccessException {
-        List<Method> calls = new ArrayList<>();
-        for (Method m : OathCoach.class.getMethods()) {
-            if (m.getDeclaringClass() == OathCoach.class) {
-                calls.add(m);
-            }
-        }
-        calls.sort(Comparator.comparing(Method::getName));
+        List<Method> calls = Check.publicCalls();
         for (int run = 0; run < RUNS; run++) {
             Check.same("the same answers in run " + run, wildRun(run, calls), wildRun(run, calls));
         }
