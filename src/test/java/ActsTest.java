@@ -2,17 +2,23 @@
 public final class ActsTest {
     public static void main(String[] args) {
         pulls();
+        pullOfWhatIsNotOpen();
         snowAndPull();
         anHour();
+        theFirstAndTheLastPlace();
+        metInSnow();
         vows();
+        vowsBySpan();
         hours();
         hoursFull();
         swear();
+        swearWhateverItWas();
         buy();
         snow();
         oathAndCoach();
         undo();
         undoForgets();
+        undoOfEachActAtTheEdge();
         Check.finish();
     }
 
@@ -26,6 +32,13 @@ public final class ActsTest {
             }
             x.hours(1);
         }
+    }
+
+    private static void pullOfWhatIsNotOpen() {
+        OathCoach x = Check.coachOf("c0,0;o1,20,1;f1,20,1;v1,20,1;m9,1,1;l9,1,9;");
+        Check.says(x, "hours 1 = 1", "buy 3 = 1", "oath 0 3 = 1", "oath 0 4 = 0", "oath 1 3 = 2", "oath 1 4 = 0",
+            "oath 2 3 = 1", "oath 2 4 = 0", "oath 3 3 = 3", "oath 3 4 = 0");
+        Check.says(x, "oath 4 3 = 0", "oath 4 4 = 0", "coach 1 = NONE", "hours 1 = 1", "coach 2 = 16");
     }
 
     private static void snowAndPull() {
@@ -58,6 +71,32 @@ public final class ActsTest {
         x = Check.coachOf("c5,0;o4,1,9;o3,9,9;");
         x.snow(4, 1);
         Check.same("kept in snow", x.hours(1) * 10 + x.oath(0, 3), 41);
+    }
+
+    private static void theFirstAndTheLastPlace() {
+        OathCoach x = Check.coachOf("c0,0;m0,20,60;o9,1,60;");
+        Check.says(x, "hours 1 = 0", "oath 0 3 = 1", "hours 9 = 9", "oath 1 3 = 1", "hours 24 = 9");
+        Check.says(x, "swear 0 9 20 = 60", "swear 1 0 1 = 1", "hours 1 = 9", "hours 8 = 1", "oath 1 3 = 0",
+            "hours 1 = 0", "oath 1 3 = 1", "hours 24 = 0");
+    }
+
+    /** "SNOW or not": a PLACE in SNOW does not pull, but what is sworn to it is met there. */
+    private static void metInSnow() {
+        OathCoach x = Check.coachOf("c4,0;m5,1,60;l5,2,60;f5,2,60;v5,2,60;o5,2,60;o6,1,60;");
+        Check.says(x, "snow 5 1 = 32", "coach 1 = 5", "hours 1 = 5", "coach 2 = 32");
+        int[] came = {1, 1, 2, 1, 1, 0};
+        for (int oath = 0; oath < 6; oath++) {
+            Check.same("what came of " + oath, x.oath(oath, 3), came[oath]);
+        }
+        Check.says(x, "count 4 = 4", "count 5 = 1");
+    }
+
+    /** An hour that is a multiple of WEIGHT and 1, at the least WEIGHT, at the most, and of one that is sworn anew. */
+    private static void vowsBySpan() {
+        OathCoach x = Check.coachOf("c0,0;v0,20,1;o0,1,1;f0,1,1;l0,1,1;m0,1,1;");
+        Check.says(x, "hours 20 = 0", "coach 2 = 0", "hours 1 = 0", "coach 2 = 1", "hours 1 = 0", "coach 2 = 0",
+            "hours 19 = 0", "coach 2 = 0", "hours 1 = 0", "coach 2 = 1", "count 3 = 42", "count 4 = 5", "count 5 = 1");
+        Check.says(x, "swear 0 0 1 = 6", "hours 1 = 0", "coach 2 = 0", "hours 1 = 0", "coach 2 = 1", "count 3 = 44");
     }
 
     private static void vows() {
@@ -106,7 +145,8 @@ public final class ActsTest {
         Check.same("999", x.hours(15) >= 0 ? 1 : 0, 1);
         Check.same("hour then", x.count(3), 999);
         Check.same("no more", x.hours(1), Check.FULL);
-        Check.same("foretold yet", x.ahead(60) >= 0 ? 1 : 0, 1);
+        Check.says(x, "ahead 60 = 9", "comesTo 0 0 = 1", "comesTo 0 1 = 0", "comesTo 0 2 = 1", "order 0 = 0",
+            "undo = 23", "count 3 = 998", "hours 2 = FULL", "hours 1 = 9", "count 3 = 999");
     }
 
     private static void swear() {
@@ -131,6 +171,13 @@ public final class ActsTest {
         x.buy(1);
         Check.same("one bought off", x.swear(1, 7, 9), 14);
         Check.same("acts", x.count(6), 9);
+    }
+
+    private static void swearWhateverItWas() {
+        OathCoach x = Check.coachOf("c0,0;o0,1,60;f0,1,60;l9,1,60;m9,1,60;");
+        Check.says(x, "hours 1 = 0", "buy 2 = 1", "oath 0 3 = 1", "oath 1 3 = 2", "oath 2 3 = 3", "oath 3 3 = 0",
+            "swear 0 9 1 = 1", "swear 1 9 1 = 6", "swear 2 0 2 = 1", "swear 3 0 20 = 60", "coach 2 = 15",
+            "oath 0 3 = 0", "oath 1 3 = 0", "oath 2 3 = 0", "oath 3 3 = 0", "count 4 = 1", "count 5 = 1");
     }
 
     private static void buy() {
@@ -158,6 +205,13 @@ public final class ActsTest {
         Check.same("comes", x.snow(9, 1), 528);
         Check.same("goes", x.snow(4, 0), 512);
         Check.same("acts", x.count(6), 3);
+        x = Check.coachOf("c0,0;o9,5,2;");
+        for (int place = 0; place < 10; place++) {
+            Check.same("it comes to " + place, x.snow(place, 1), (2 << place) - 1);
+        }
+        for (int place = 0; place < 10; place++) {
+            Check.same("it goes from " + place, x.snow(place, 0), 1023 - ((2 << place) - 1));
+        }
     }
 
     private static void oathAndCoach() {
@@ -217,5 +271,30 @@ public final class ActsTest {
         Check.same("acts anew", x.count(6), 2);
         Check.same("undo", x.undo(), 1);
         Check.same("where", x.coach(0), 7);
+    }
+
+    /** 24 ACTS of each sort are kept, and of 25 the oldest is forgotten. */
+    private static void undoOfEachActAtTheEdge() {
+        for (int acts = 23; acts <= 26; acts++) {
+            OathCoach x = Check.coachOf("c0,0;o9,5,60;");
+            for (int i = 1; i <= acts; i++) {
+                Check.same("sworn", x.swear(0, i % 10, 1 + i % 20), 1 + i % 20);
+                Check.same("acts", x.count(6), Math.min(i, 24));
+            }
+            for (int left = Math.min(acts, 24) - 1; left >= 0; left--) {
+                Check.same("undone", x.undo(), left);
+            }
+            Check.same("none", x.undo(), Check.STATE);
+            int forgotten = Math.max(acts - 24, 0);
+            Check.same("place", x.oath(0, 0), forgotten == 0 ? 9 : forgotten);
+            Check.same("weight", x.oath(0, 1), forgotten == 0 ? 5 : 1 + forgotten);
+        }
+        OathCoach x = Check.coachOf("c0,0;o9,5,60;");
+        Check.says(x, "snow 9 1 = 512", "hours 24 = 0", "count 6 = 24", "count 3 = 24");
+        for (int left = 23; left >= 0; left--) {
+            Check.same("undone", x.undo(), left);
+        }
+        Check.says(x, "undo = STATE", "count 3 = 0", "coach 3 = 512", "snow 9 0 = 0", "count 6 = 1", "undo = 0",
+            "coach 3 = 512", "undo = STATE");
     }
 }

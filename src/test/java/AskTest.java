@@ -6,8 +6,10 @@ public final class AskTest {
         kinds();
         as();
         asks();
+        asksOfTheLast();
         askAndTraceRefused();
         counts();
+        countsUndone();
         Check.finish();
     }
 
@@ -62,6 +64,19 @@ public final class AskTest {
         asked(x, 0, 0, 22, 11, 10, 21, 20);
     }
 
+    /** The last number, the last PLACE, the most WEIGHT. */
+    private static void asksOfTheLast() {
+        int[] size = {35, -50, -965, -80, -160};
+        int[] mark = {15, 30, -985, 86, 166};
+        for (int kind = 1; kind <= 5; kind++) {
+            OathCoach x = Check.coachOf("c0,0;" + "o0,1,1;".repeat(6) + "omlfv".charAt(kind - 1) + "9,20,60;");
+            Check.says(x, "kind 6 = " + kind, "as 6 0 = 6", "as 6 " + kind + " = 6", "kind 7 = BAD", "as 7 0 = BAD",
+                "ask 7 0 = BAD", "ask 6 0 = " + size[kind - 1], "ask 6 1 = " + mark[kind - 1]);
+            Check.says(x, "buy 6 = 6", "ask 6 0 = " + size[kind - 1], "ask 6 1 = " + mark[kind - 1], "as 6 0 = 6",
+                "swear 6 0 1 = " + new int[] {1, 3, 0, 6, 6}[kind - 1], "kind 6 = " + kind);
+        }
+    }
+
     private static void askAndTraceRefused() {
         OathCoach x = Check.coachOf(ALL_KINDS);
         Check.same("nothing was asked", x.trace(0), Check.NONE);
@@ -89,5 +104,11 @@ public final class AskTest {
         }
         Check.same("no such thing", x.count(8), Check.BAD);
         Check.same("no such thing", x.count(-1), Check.BAD);
+    }
+
+    private static void countsUndone() {
+        OathCoach x = Check.coachOf("c0,0;f1,1,1;o2,1,60;");
+        Check.says(x, "count 4 = 0", "count 5 = 0", "hours 2 = 2", "count 2 = 0", "count 4 = 1", "count 5 = 1",
+            "undo = 1", "count 4 = 0", "count 5 = 1", "undo = 0", "count 5 = 0", "count 2 = 3", "count 3 = 0");
     }
 }

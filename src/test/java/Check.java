@@ -1,5 +1,6 @@
 import java.lang.reflect.Method;
 import java.util.ArrayList;
+import java.util.Arrays;
 import java.util.Comparator;
 import java.util.List;
 
@@ -54,6 +55,49 @@ final class Check {
         for (int i = 0; i < items.length; i++) {
             same("set", x.set(row, i, items[i]), items[i]);
         }
+    }
+
+    /** Each line is a call and what is due: "hours 3 = 7", "drop MAX = BAD", "tell c0,0;o1,1,1; = 1". */
+    static void says(OathCoach x, String... lines) {
+        for (String line : lines) {
+            String[] halves = line.split(" = ");
+            same(line, call(x, halves[0]), number(halves[1]));
+        }
+    }
+
+    static long call(OathCoach x, String line) {
+        String[] words = line.split(" ");
+        if (words[0].equals("tell")) {
+            return told(x, words[1]);
+        }
+        Object[] numbers = new Object[words.length - 1];
+        Class<?>[] types = new Class<?>[numbers.length];
+        Arrays.fill(types, int.class);
+        for (int i = 0; i < numbers.length; i++) {
+            numbers[i] = number(words[i + 1]);
+        }
+        try {
+            return ((Number) OathCoach.class.getMethod(words[0], types).invoke(x, numbers)).longValue();
+        } catch (ReflectiveOperationException cannot) {
+            throw new IllegalStateException(line, cannot);
+        }
+    }
+
+    static int number(String word) {
+        return switch (word) {
+            case "NONE" -> NONE;
+            case "BAD" -> BAD;
+            case "STATE" -> STATE;
+            case "FULL" -> FULL;
+            case "NULL" -> NULL;
+            case "PLACE" -> PLACE;
+            case "KIND" -> KIND;
+            case "SIZE" -> SIZE;
+            case "STORE" -> STORE;
+            case "MIN" -> Integer.MIN_VALUE;
+            case "MAX" -> Integer.MAX_VALUE;
+            default -> Integer.parseInt(word);
+        };
     }
 
     /** In an order of their own, so that a seeded draw picks the same ones on every machine. */

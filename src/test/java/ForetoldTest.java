@@ -8,20 +8,27 @@ public final class ForetoldTest {
 
     public static void main(String[] args) {
         aheadAndComesTo();
+        theSixtiethHour();
         keptAndPast();
         visitsAndRest();
         least();
+        theTwentyFourthHour();
         buyOff();
         holds();
         broke();
         sworn();
         who();
+        twelveHoursAtTheEndOfARow();
+        itemsThatAreNoPlaces();
         toldRowsRefused();
         late();
+        lateAtTheEdge();
         lies();
         order();
         drawn();
+        drawnByLargeNumbers();
         images();
+        allOfAnImage();
         nothingChanges();
         Check.finish();
     }
@@ -49,6 +56,14 @@ public final class ForetoldTest {
         Check.same("bought off", x.comesTo(2, 60), 3);
     }
 
+    /** A letter of WEIGHT 1 does not pull until it is DUE at HOUR 59, and then once. */
+    private static void theSixtiethHour() {
+        OathCoach x = Check.coachOf("c9,0;l8,1,59;");
+        Check.says(x, "ahead 59 = 9", "ahead 60 = 8", "ahead 61 = BAD", "comesTo 0 59 = 0", "comesTo 0 60 = 1",
+            "comesTo 0 61 = BAD", "visits 59 = 512", "visits 60 = 768", "visits 61 = BAD", "holds 59 = 0",
+            "holds 60 = 1", "holds 61 = BAD", "drawn 0 1 0 = 9", "drawn 0 1 1 = 1");
+    }
+
     private static void keptAndPast() {
         OathCoach x = Check.coachOf(STRAIGHT);
         Check.same("kept", x.kept(0), 9);
@@ -62,6 +77,8 @@ public final class ForetoldTest {
         x.buy(0);
         Check.same("it is not open now", x.kept(0), 0);
         Check.same("never", x.past(9), Check.NONE);
+        x = Check.coachOf("c0,0;o0,1,1;f0,1,1;");
+        Check.says(x, "kept 0 = 1", "kept 1 = 1", "hours 1 = 0", "kept 0 = 0", "kept 1 = 0");
         x = Check.coachOf(TO_AND_FRO);
         Check.same("the first vow", x.kept(0), 1);
         Check.same("never", x.kept(1), Check.NONE);
@@ -130,6 +147,20 @@ public final class ForetoldTest {
         x = Check.coachOf("c1,0;f9,15,60;o9,1,60;");
         Check.same("20 is not enough", x.least(1, 0, 1), Check.NONE);
         Check.same("1 at least", Check.coachOf("c0,0;o9,1,60;").least(0, 0, 1), 1);
+    }
+
+    /** It goes to and fro: behind 23 HOURS it is at 0, which is HOME, behind 24 at 1. */
+    private static void theTwentyFourthHour() {
+        OathCoach x = Check.coachOf(TO_AND_FRO);
+        Check.says(x, "least 1 9 1 = 1", "least 1 9 2 = NONE", "least 1 9 23 = 1", "least 1 9 24 = 11",
+            "least 1 9 25 = BAD", "least 1 9 0 = BAD", "least 1 0 24 = 1");
+        boughtOff(x, 0, 23, 0, 0);
+        boughtOff(x, 1, 23, Check.NONE, Check.NONE);
+        boughtOff(x, 1, 24, 0, 0);
+        boughtOff(x, 0, 24, 1, 2);
+        boughtOff(x, 9, 24, 1, 1);
+        boughtOff(x, 2, 24, Check.NONE, Check.NONE);
+        Check.says(x, "buyOff 0 25 0 = BAD", "buyOff 0 0 0 = BAD", "hours 24 = 1");
     }
 
     private static void buyOff() {
@@ -233,6 +264,27 @@ public final class ForetoldTest {
         Check.same("but not yet", x.who(0, 0, 0, 2), 62);
     }
 
+    /** As it is: 6, 5, 4, 5, 6, 7, 8, 9, and it stays there. */
+    private static void twelveHoursAtTheEndOfARow() {
+        OathCoach x = Check.coachOf(THREE);
+        Check.rowOf(x, 0, 6, 5, 4, 5, 6, 7, 8, 9, 9, 9, 9, 9);
+        Check.says(x, "row 1 0 40 = 40", "copy 0 0 1 28 12 = 12", "broke 1 28 12 = 128", "sworn 0 1 28 12 = 64",
+            "sworn 2 1 28 12 = 512", "who 0 1 28 12 = 22", "broke 1 29 12 = PLACE", "sworn 0 1 29 12 = PLACE",
+            "who 0 1 29 12 = PLACE", "broke 1 28 13 = BAD", "sworn 0 1 28 13 = BAD", "who 0 1 28 13 = BAD");
+        Check.says(x, "set 1 39 8 = 8", "broke 1 28 12 = 0", "sworn 0 1 28 12 = 0", "who 0 1 28 12 = 0",
+            "broke 1 28 11 = 128", "sworn 0 1 28 11 = 64", "who 0 1 28 11 = 22");
+    }
+
+    private static void itemsThatAreNoPlaces() {
+        OathCoach x = Check.coachOf("c0,0;o0,1,1;");
+        x.row(0, 2, 1);
+        Check.says(x, "broke 0 0 1 = 129", "sworn 0 0 0 1 = 1", "who 0 0 0 1 = 62");
+        for (int item : new int[] {-1, 10, 256, 65536, 32, Integer.MIN_VALUE, Integer.MAX_VALUE}) {
+            Check.same("set", x.set(0, 0, item), item);
+            Check.says(x, "broke 0 0 1 = 0", "sworn 0 0 0 1 = 0", "who 0 0 0 1 = 0");
+        }
+    }
+
     private static void toldRowsRefused() {
         OathCoach x = Check.coachOf(THREE);
         Check.rowOf(x, 0, 6, 5, 4);
@@ -269,6 +321,17 @@ public final class ForetoldTest {
         Check.same("the oath", x.late(1), 0);
     }
 
+    private static void lateAtTheEdge() {
+        OathCoach x = Check.coachOf("c0,0;o9,5,60;f0,5,1;l9,2,1;");
+        Check.says(x, "snow 9 1 = 512", "hours 24 = 0", "oath 1 3 = 2", "late 0 = 23", "late 1 = 2", "buy 2 = 1",
+            "late 0 = NONE", "late 1 = NONE", "hours 24 = 0", "hours 12 = 0", "count 3 = 60", "late 0 = NONE",
+            "late 1 = NONE", "hours 1 = 0", "late 0 = 1", "late 1 = 0", "swear 2 9 1 = 0", "late 0 = 60", "late 1 = 2");
+        for (int i = 0; i < 39; i++) {
+            x.hours(24);
+        }
+        Check.says(x, "hours 2 = 0", "count 3 = 999", "late 0 = 998", "late 1 = 2");
+    }
+
     private static void lies() {
         OathCoach x = Check.coachOf("c5,0;o9,3,60;o0,2,60;");
         fraction(x, 6, 4, 3, 5);
@@ -291,6 +354,18 @@ public final class ForetoldTest {
         x = Check.coachOf("c5,0;o9,1,9;o9,1,9;o9,1,9;o9,1,9;o9,1,9;o9,1,9;o9,1,9;");
         fraction(x, 5, 3, 2187, 10000000);
         fraction(x, 6, 3, 9997813, 10000000);
+        fraction(x, 5, 5, 1, 128);
+        fraction(x, 6, 5, 127, 128);
+        x = Check.coachOf("c5,0;o9,3,60;o0,2,60;l9,1,60;");
+        Check.says(x, "snow 9 1 = 512");
+        fraction(x, 4, 4, 3, 5);
+        fraction(x, 5, 4, 2, 5);
+        fraction(x, 6, 4, 0, 1);
+        x = Check.coachOf("c9,0;o9,3,60;o0,2,60;");
+        fraction(x, 9, 1, 91, 100);
+        fraction(x, 8, 1, 9, 100);
+        fraction(x, 9, 9, 91, 100);
+        fraction(x, 0, 9, 0, 1);
     }
 
     private static void fraction(OathCoach x, int place, int p, long above, long below) {
@@ -335,6 +410,22 @@ public final class ForetoldTest {
         Check.same("all are open", x.drawn(1, 6, 1), 4);
     }
 
+    /** The product is far beyond what an int holds. */
+    private static void drawnByLargeNumbers() {
+        OathCoach x = Check.coachOf("c5,0;o0,5,60;m9,2,30;v4,3,3;l8,9,9;f1,7,7;v6,1,1;o3,20,1;");
+        int[] seeds = {1, 2, 999998, 999999};
+        int[] hours = {0, 1, 2, 59, 60};
+        int[][] where = {{5, 4, 3, 2, 1}, {5, 4, 3, 6, 5}, {5, 4, 3, 2, 1}, {5, 4, 3, 2, 3}};
+        int[][] open = {{7, 6, 5, 2, 3}, {7, 6, 5, 3, 2}, {7, 6, 4, 3, 4}, {7, 6, 5, 2, 3}};
+        for (int s = 0; s < 4; s++) {
+            for (int h = 0; h < 5; h++) {
+                String told = "drawn " + hours[h] + " " + seeds[s];
+                Check.says(x, told + " 0 = " + where[s][h], told + " 1 = " + open[s][h]);
+            }
+        }
+        Check.says(x, "drawn 61 1 0 = BAD", "drawn -1 1 0 = BAD", "drawn 60 0 0 = BAD", "drawn 60 1000000 0 = BAD");
+    }
+
     private static void images() {
         OathCoach x = Check.coachOf(THREE);
         x.snow(2, 1);
@@ -371,6 +462,25 @@ public final class ForetoldTest {
         x = Check.coachOf(THREE);
         x.image(1);
         Check.same("none was kept", x.restore(0), Check.STATE);
+    }
+
+    /** Each thing of a ROUTE, and no ACT of what was before. */
+    private static void allOfAnImage() {
+        OathCoach x = Check.coachOf("c4,7;o4,1,60;f5,9,9;v9,2,9;m0,2,30;l9,8,5;");
+        Check.says(x, "snow 2 1 = 4", "hours 3 = 5", "buy 4 = 2", "image 1 = 1", "swear 3 3 3 = 9",
+            "tell c0,0;v8,8,8; = 1", "hours 5 = 5", "image 0 = 1", "tell c10; = -1000101", "restore 1 = 1");
+        int[][] oaths = {{1, 4, 1, 60, 1, 0}, {4, 5, 9, 9, 2, 0}, {5, 9, 2, 9, 0, 2}, {2, 0, 2, 30, 0, 6},
+            {3, 9, 8, 5, 3, 0}};
+        for (int oath = 0; oath < 5; oath++) {
+            Check.same("kind of " + oath, x.kind(oath), oaths[oath][0]);
+            for (int what = 0; what < 5; what++) {
+                Check.same(what + " of " + oath, x.oath(oath, what), oaths[oath][what + 1]);
+            }
+        }
+        Check.says(x, "coach 0 = 5", "coach 1 = 3", "coach 2 = 12", "coach 3 = 4", "coach 4 = 7", "count 1 = 5",
+            "count 3 = 3", "count 4 = 1", "count 5 = 1", "count 6 = 0", "undo = STATE", "hours 1 = 4", "undo = 0",
+            "coach 0 = 5", "undo = STATE", "restore 0 = 1", "coach 0 = 5", "count 1 = 1", "kind 0 = 5", "kind 1 = BAD",
+            "fault = 2");
     }
 
     private static void nothingChanges() {

@@ -2,10 +2,14 @@
 public final class RowsTest {
     public static void main(String[] args) {
         row();
+        itemsAreNoughtAtFirst();
         set();
+        whatIsSetStands();
         copy();
+        copyOfEachLane();
         copyFindings();
         drop();
+        eightRows();
         status();
         Check.finish();
     }
@@ -16,6 +20,7 @@ public final class RowsTest {
         Check.same("row(8)", x.row(8, 0, 1), Check.BAD);
         Check.same("lane -1", x.row(0, -1, 1), Check.BAD);
         Check.same("lane 3", x.row(0, 3, 1), Check.BAD);
+        Check.same("lanes far beyond", x.row(0, 4, 1) + x.row(0, Integer.MAX_VALUE, 1), 2 * Check.BAD);
         Check.same("41 items", x.row(0, 0, 41), Check.BAD);
         Check.same("BAD is ahead of SIZE", x.row(8, 0, -1), Check.BAD);
         Check.same("BAD lane is ahead of SIZE", x.row(0, 3, -1), Check.BAD);
@@ -30,10 +35,17 @@ public final class RowsTest {
         Check.same("copy of what is there", x.copy(7, 39, 7, 0, 1), 1);
         Check.same("in place of what is there", x.row(7, 2, 40), 40);
         Check.same("rows yet", x.count(0), 2);
-        x = Check.coachOf("c0,0;o0,1,1;");
+    }
+
+    private static void itemsAreNoughtAtFirst() {
+        OathCoach x = Check.coachOf("c0,0;o0,1,1;");
         Check.rowOf(x, 0, 5, 5, 5, 5);
-        x.row(0, 1, 3);
-        Check.same("items are 0 at first", x.broke(0, 0, 3), 129);
+        Check.says(x, "row 0 1 3 = 3", "broke 0 0 3 = 129");
+        Check.rowOf(x, 0, 5, 5, 5);
+        Check.says(x, "row 0 0 1 = 1", "row 0 0 3 = 3", "broke 0 0 3 = 129");
+        Check.rowOf(x, 0, 5, 5, 5);
+        Check.says(x, "drop 0 = 3", "row 0 2 3 = 3", "broke 0 0 3 = 129");
+        Check.says(x, "row 1 2 40 = 40", "broke 1 0 12 = 129", "broke 1 28 12 = 129", "broke 1 29 12 = PLACE");
     }
 
     private static void set() {
@@ -58,6 +70,24 @@ public final class RowsTest {
         Check.same("BAD", x.set(-1, 0, 0), Check.BAD);
     }
 
+    /** A coach that stays at 4 fits a row whose item is 4, and no other. */
+    private static void whatIsSetStands() {
+        int[] highest = {256, 65536, 0};
+        for (int lane = 0; lane < 3; lane++) {
+            OathCoach x = Check.coachOf("c4,0;o4,1,1;");
+            Check.same("row", x.row(0, lane, 40), 40);
+            Check.same("the last item", x.set(0, 39, 4 + highest[lane]), 4);
+            Check.says(x, "broke 0 39 1 = 129", "broke 0 38 1 = 0", "set 0 0 4 = 4", "broke 0 0 1 = 129",
+                "broke 0 1 1 = 0", "set 0 0 -4 = -4", "broke 0 0 1 = 0", "set 0 40 4 = PLACE", "set 0 -1 4 = PLACE");
+        }
+        OathCoach x = new OathCoach();
+        Check.says(x, "row 0 0 1 = 1", "set 0 0 -128 = -128", "set 0 0 255 = -1", "set 0 0 256 = 0",
+            "set 0 0 MAX = -1", "set 0 0 MIN = 0");
+        Check.says(x, "row 0 1 1 = 1", "set 0 0 -32768 = -32768", "set 0 0 -32769 = 32767", "set 0 0 65535 = -1",
+            "set 0 0 65536 = 0", "set 0 0 128 = 128", "set 0 0 MAX = -1", "set 0 0 MIN = 0");
+        Check.says(x, "row 0 2 1 = 1", "set 0 0 65536 = 65536", "set 0 0 MAX = MAX", "set 0 0 -1 = -1");
+    }
+
     /** What stands in a row is read by where a coach is told to be: it stays at 4, so that a row of 4s fits. */
     private static void expectFours(OathCoach x, int row, int from, int n, boolean fits) {
         int want = fits ? 129 : 0;
@@ -78,6 +108,21 @@ public final class RowsTest {
         Check.same("backwards", x.copy(0, 1, 0, 0, 4), 4);
         expectFours(x, 0, 0, 2, true);
         expectFours(x, 0, 2, 1, false);
+    }
+
+    private static void copyOfEachLane() {
+        for (int lane = 0; lane < 3; lane++) {
+            OathCoach x = Check.coachOf("c4,0;o4,1,1;");
+            x.row(6, lane, 40);
+            x.row(7, lane, 40);
+            Check.says(x, "set 6 0 4 = 4", "set 6 39 4 = 4", "copy 6 0 7 0 40 = 40", "broke 7 0 1 = 129",
+                "broke 7 39 1 = 129", "broke 7 1 1 = 0", "copy 6 0 7 0 41 = PLACE", "copy 6 39 7 5 1 = 1",
+                "broke 7 5 1 = 129", "copy 6 39 7 39 2 = PLACE", "copy 6 40 7 40 0 = 0", "copy 6 41 7 0 0 = PLACE",
+                "copy 6 0 7 41 0 = PLACE");
+            x.row(5, lane, 0);
+            Check.says(x, "copy 5 0 5 0 0 = 0", "copy 6 40 5 0 0 = 0", "copy 5 0 6 0 1 = PLACE",
+                "copy 6 0 5 0 1 = PLACE");
+        }
     }
 
     private static void copyFindings() {
@@ -113,6 +158,18 @@ public final class RowsTest {
         Check.same("BAD", x.drop(-1), Check.BAD);
         x.row(3, 0, 0);
         Check.same("of none", x.drop(3), 0);
+    }
+
+    private static void eightRows() {
+        OathCoach x = new OathCoach();
+        for (int row = 0; row < 8; row++) {
+            Check.same("row " + row, x.row(row, row % 3, 40 - row), 40 - row);
+            Check.same("rows", x.count(0), row + 1);
+        }
+        for (int row = 0; row < 8; row++) {
+            Check.same("drop " + row, x.drop(row), 40 - row);
+            Check.same("rows yet", x.count(0), 7 - row);
+        }
     }
 
     private static void status() {

@@ -6,6 +6,11 @@ public final class TextTest {
         feed();
         route();
         numbers();
+        numbersOfEachPlace();
+        bytesOfEachPlace();
+        theLongestText();
+        theEnd();
+        afterWhatWasForetold();
         faults();
         oathsMore();
         faultLeavesAll();
@@ -61,6 +66,89 @@ public final class TextTest {
         Check.same("weight", x.oath(0, 1), 1);
     }
 
+    /** Each NUMBER of a text, from 0 to 99, with one figure and with two, and with three. */
+    private static void numbersOfEachPlace() {
+        String[] ahead = {"c", "c0,", "c0,0;o", "c0,0;o0,", "c0,0;o0,1,", "c0,0;m3,1,1;v"};
+        String[] behind = {",0;o0,1,1;", ";o0,1,1;", ",1,1;", ",1;", ";", ",1,1;"};
+        int[] least = {0, 0, 0, 1, 1, 0};
+        int[] most = {9, 9, 9, 20, 60, 9};
+        for (int slot = 0; slot < 6; slot++) {
+            for (int v = 0; v < 100; v++) {
+                boolean asTold = v >= least[slot] && v <= most[slot];
+                String two = (v < 10 ? "0" : "") + v;
+                for (String figures : new String[] {"" + v, two}) {
+                    String text = ahead[slot] + figures + behind[slot];
+                    if (asTold) {
+                        readAs(text, slot, v);
+                    } else {
+                        fault(text, ahead[slot].length(), 2);
+                    }
+                }
+                fault(ahead[slot] + "0" + two + behind[slot], ahead[slot].length(), 1);
+            }
+        }
+    }
+
+    private static void readAs(String text, int slot, int v) {
+        OathCoach x = new OathCoach();
+        Check.same("route of " + text, Check.told(x, text), slot == 5 ? 2 : 1);
+        int[] read = {x.coach(0), x.coach(4), x.oath(0, 0), x.oath(0, 1), x.oath(0, 2), x.oath(1, 0)};
+        Check.same("number " + slot + " of " + text, read[slot], v);
+        Check.same("no fault in " + text, x.fault(), 0);
+    }
+
+    /** Each byte, 0 to 255, where a letter, a SIGN, or a NUMBER is to stand. */
+    private static void bytesOfEachPlace() {
+        String text = "c1,2;o3,4,5;v6,7,8;";
+        for (int at = 0; at < text.length(); at++) {
+            char due = text.charAt(at);
+            for (int b = 0; b < 256; b++) {
+                boolean figure = b >= '0' && b <= '9';
+                boolean sort = "omlfv".indexOf(b) >= 0;
+                if (b == due || (due == 'o' || due == 'v') && sort) {
+                    continue;
+                }
+                boolean longer = figure && (due == ',' || due == ';');
+                if (!longer && !(figure && due >= '0' && due <= '9')) {
+                    fault(text.substring(0, at) + (char) b + text.substring(at + 1), at, 1);
+                }
+            }
+        }
+    }
+
+    private static void theLongestText() {
+        String longest = "c09,09;" + "m09,20,60;".repeat(7);
+        Check.same("its bytes", longest.length(), 77);
+        OathCoach x = new OathCoach();
+        Check.same("all are read", Check.told(x, longest), 7);
+        Check.says(x, "oath 6 0 = 9", "oath 6 1 = 20", "oath 6 2 = 60", "coach 2 = 127", "kind 6 = 2", "kind 7 = BAD");
+        fault(longest + "m", 77, 3);
+        fault(longest + ";".repeat(23), 77, 1);
+        fault(longest + "v" + "0".repeat(22), 77, 3);
+        fault("c" + "0".repeat(99), 1, 1);
+        fault("0".repeat(100), 0, 1);
+    }
+
+    /** What a longer text before had there is no more on the tape. */
+    private static void theEnd() {
+        String text = "c1,2;o3,4,15;v6,17,8;";
+        for (int bytes = 0; bytes < text.length(); bytes++) {
+            OathCoach x = Check.coachOf(text);
+            boolean whole = bytes == 13;
+            Check.same("the end behind " + bytes, Check.told(x, text.substring(0, bytes)),
+                whole ? 1 : -1000100 - bytes);
+            Check.same("its fault", x.fault(), whole ? 0 : 1);
+        }
+    }
+
+    /** A ROUTE begins anew, whatever was foretold before it. */
+    private static void afterWhatWasForetold() {
+        OathCoach x = Check.coachOf("c4,6;f5,1,1;v6,1,1;o4,1,1;");
+        Check.says(x, "snow 3 1 = 8", "hours 9 = 6", "ahead 60 = 6", "tell c3,8;l9,20,60; = 1", "count 1 = 1",
+            "count 2 = 1", "count 3 = 0", "count 4 = 0", "count 5 = 0", "count 6 = 0", "coach 0 = 3", "coach 3 = 0",
+            "coach 4 = 8", "oath 0 4 = 10", "oath 1 0 = BAD");
+    }
+
     private static void fault(String text, int place, int number) {
         OathCoach x = new OathCoach();
         Check.same("route of " + text, Check.told(x, text), -1000100 - place);
@@ -105,6 +193,11 @@ public final class TextTest {
         fault("c10,x", 1, 2);
         fault("c0,x10", 3, 1);
         fault("c" + (char) 200, 1, 1);
+        fault("c0,0;99", 5, 1);
+        fault("c0,0;o0,1,1;00", 12, 1);
+        fault("c0,0;o0,1,1;100", 12, 1);
+        fault("c0,0;o0,1,1;o10,x", 13, 2);
+        fault("c0,0;o0,1,1;o9,99,99;", 15, 2);
     }
 
     private static void oathsMore() {
@@ -113,6 +206,9 @@ public final class TextTest {
         fault(SEVEN + "x", SEVEN.length(), 1);
         fault(SEVEN + "c", SEVEN.length(), 1);
         fault(SEVEN + "7", SEVEN.length(), 1);
+        fault(SEVEN + "99", SEVEN.length(), 1);
+        fault(SEVEN + ",", SEVEN.length(), 1);
+        fault(SEVEN.substring(0, SEVEN.length() - 1) + "o", SEVEN.length() - 1, 1);
     }
 
     private static void faultLeavesAll() {
