@@ -16,6 +16,7 @@ public final class UnchangedTest {
         refusedWhenFull();
         foretold();
         aFault();
+        besideTheRoute();
         Check.finish();
     }
 
@@ -254,5 +255,27 @@ public final class UnchangedTest {
         want.set(0, 1L);
         Check.same("all stays behind a FAULT", allSeen(x).equals(want) ? 1 : 0, 1);
         Check.same("all stays behind a FAULT at the end", allSeen(y).equals(want) ? 1 : 0, 1);
+    }
+
+    /** ROWS, the tape, THE TRACE, IMAGES, status() and fault() are no part of the ROUTE: ACTS and their undoing leave them. */
+    private static void besideTheRoute() {
+        String[] calls = {"hours 3 = 4", "swear 0 9 20 = 20", "buy 3 = 1", "snow 9 1 = 516", "undo = 4", "restore 0 = 1"};
+        for (String call : calls) {
+            OathCoach x = rich();
+            Check.says(x, call);
+            expectBesideTheRoute(x, 11);
+            Check.says(x, "feed 59 = 12", "route = 1");
+            expectBesideTheRoute(x, 0);
+        }
+    }
+
+    private static void expectBesideTheRoute(OathCoach x, int bytes) {
+        Check.says(x, "status = 5", "fault = 2", "trace 0 = 23", "trace 1 = 20", "trace 2 = 13", "trace 3 = 10",
+            "trace 4 = NONE", "count 0 = 3", "count 7 = " + bytes, "restore 1 = STATE");
+        if (bytes == 0) {
+            Check.says(x, "coach 0 = 3", "count 6 = 0", "broke 0 0 2 = 0", "broke 0 0 1 = 128", "broke 0 1 1 = 128",
+                "broke 0 2 1 = 0", "broke 0 3 1 = 128", "broke 1 0 1 = 0", "broke 1 1 1 = 128", "broke 1 2 1 = PLACE",
+                "broke 2 0 1 = PLACE", "broke 3 0 1 = NULL", "restore 0 = 1", "coach 0 = 5", "count 3 = 1");
+        }
     }
 }
