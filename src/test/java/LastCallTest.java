@@ -19,6 +19,8 @@ public final class LastCallTest {
         asked();
         refused();
         twoCalls();
+        againAndAgain();
+        actsToTheEnd();
         Check.finish();
     }
 
@@ -139,5 +141,48 @@ public final class LastCallTest {
         last("ask 3 0 = -8", "trace 5 = 20");
         last("drawn 60 7 0 = 7", "ahead 1 = 4");
         last("who 2 0 0 1 = 42", "kind 2 = 5");
+    }
+
+    /** What changes nothing answers the same, and as often as one may ask. */
+    private static void againAndAgain() {
+        for (String line : new String[] {"ahead 60 = 9", "comesTo 3 60 = 1", "kept 2 = 40", "past 9 = 40",
+            "visits 60 = 1023", "rest = 40", "least 2 0 24 = NONE", "buyOff 6 1 1 = 8", "holds 1 = 8",
+            "broke 0 0 1 = 132", "sworn 2 0 0 1 = 1023", "who 2 0 0 1 = 42", "late 0 = NONE", "lies 4 3 1 = 10",
+            "order 0 = 3", "drawn 60 7 0 = 7", "image 1 = 1", "restore 0 = 1", "row 3 2 40 = 40", "set 0 3 4 = 4",
+            "copy 0 0 0 0 4 = 4", "kind 4 = 3", "as 4 1 = 4", "as 4 2 = KIND", "ask 3 0 = -8", "trace 3 = 10",
+            "count 6 = 5", "fault = 2", "status = 5", "coach 1 = 3", "oath 3 4 = 6", "buy 4 = STATE",
+            "snow 2 1 = STATE", "hours 25 = BAD", "feed 256 = BAD"}) {
+            List<String> calls = state();
+            while (calls.size() < CALLS) {
+                calls.add(line);
+            }
+            runAll(calls);
+        }
+    }
+
+    /** Hundreds of ACTS: of each number of them the latest 24 can be undone. */
+    private static void actsToTheEnd() {
+        List<String> calls = new ArrayList<>();
+        add(calls, "tell c0,0;o9,5,60; = 1");
+        for (int i = 0; calls.size() < CALLS - 27; i++) {
+            calls.add("swear 0 " + i % 10 + " " + (1 + i % 20) + " = " + (1 + i % 20));
+        }
+        int sworn = CALLS - 27 - "c0,0;o9,5,60;".length() - 1;
+        calls.add("count 6 = 24");
+        for (int left = 23; left >= 0; left--) {
+            calls.add("undo = " + left);
+        }
+        int forgotten = sworn - 24 - 1;
+        add(calls, "undo = STATE", "oath 0 0 = " + forgotten % 10);
+        Check.same("calls", calls.size(), CALLS);
+        runAll(calls);
+
+        calls = new ArrayList<>();
+        add(calls, "tell c0,0;v9,2,60; = 1");
+        while (calls.size() < CALLS - 2) {
+            add(calls, "hours 1 = 1", "undo = 0");
+        }
+        add(calls, "hours 24 = 9", "count 4 = 6");
+        runAll(calls.subList(0, CALLS));
     }
 }
